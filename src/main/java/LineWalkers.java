@@ -4,6 +4,7 @@
  * All rows are made with the object: no call makes anything.
  */
 public final class LineWalkers {
+    private static final int FINE = 0;
     private static final int NOBODY = -1;
     private static final int OTHER = -2;
     private static final int STATE = -3;
@@ -137,11 +138,9 @@ public final class LineWalkers {
     }
 
     public int look(int defect, int size, int doubt) {
-        if (!isDefect(defect)) {
-            return refuse(NOBODY);
-        }
-        if (!defects.open[defect]) {
-            return refuse(STATE);
+        int refusal = refusalOfOpenDefect(defect);
+        if (refusal != FINE) {
+            return refuse(refusal);
         }
         if (size < 0 || doubt < 0) {
             return refuse(BELOW);
@@ -184,21 +183,17 @@ public final class LineWalkers {
     }
 
     public int force(int defect) {
-        if (!isDefect(defect)) {
-            return refuse(NOBODY);
-        }
-        if (!defects.open[defect]) {
-            return refuse(STATE);
+        int refusal = refusalOfOpenDefect(defect);
+        if (refusal != FINE) {
+            return refuse(refusal);
         }
         return ruleFor(defect);
     }
 
     public int due(int defect) {
-        if (!isDefect(defect)) {
-            return refuse(NOBODY);
-        }
-        if (!defects.open[defect]) {
-            return refuse(STATE);
+        int refusal = refusalOfOpenDefect(defect);
+        if (refusal != FINE) {
+            return refuse(refusal);
         }
         return dueDay(defect);
     }
@@ -304,27 +299,17 @@ public final class LineWalkers {
     }
 
     public int safe(int a, int b, int minute) {
-        if (!isRange(a, b)) {
-            return refuse(NOBODY);
-        }
-        if (minute < 0) {
-            return refuse(BELOW);
-        }
-        if (minute >= MINUTES_OF_DAY) {
-            return refuse(ROOM);
+        int refusal = refusalOfWalk(a, b, minute);
+        if (refusal != FINE) {
+            return refuse(refusal);
         }
         return trains.clearFrom(a, b, minute, settings[STEP]) == minute ? 1 : 0;
     }
 
     public int first(int a, int b, int minute) {
-        if (!isRange(a, b)) {
-            return refuse(NOBODY);
-        }
-        if (minute < 0) {
-            return refuse(BELOW);
-        }
-        if (minute >= MINUTES_OF_DAY) {
-            return refuse(ROOM);
+        int refusal = refusalOfWalk(a, b, minute);
+        if (refusal != FINE) {
+            return refuse(refusal);
         }
         return trains.firstSafe(a, b, minute, settings[STEP]);
     }
@@ -571,6 +556,23 @@ public final class LineWalkers {
 
     private boolean isDefect(int defect) {
         return defect >= 0 && defect < defects.told;
+    }
+
+    private int refusalOfOpenDefect(int defect) {
+        if (!isDefect(defect)) {
+            return NOBODY;
+        }
+        return defects.open[defect] ? FINE : STATE;
+    }
+
+    private static int refusalOfWalk(int a, int b, int minute) {
+        if (!isRange(a, b)) {
+            return NOBODY;
+        }
+        if (minute < 0) {
+            return BELOW;
+        }
+        return minute < MINUTES_OF_DAY ? FINE : ROOM;
     }
 
     private Readings readingsOf(int what) {

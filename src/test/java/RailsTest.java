@@ -111,6 +111,20 @@ public final class RailsTest {
         Check.due("1 and 3 by 2", x.sure(), 0);
         x.rail(0, 1, 2);
         Check.due("a lot without miles doesn't count", x.sure(), 1);
+        x.rail(4, 1, 5);
+        x.defect(4, 0, 0, 3, 1, 1);
+        Check.due("lot 5, 1 by 1, and lot 2, 3 by 3", x.worst(), 2);
+        Check.due("as many", x.sure(), 0);
+        x.defect(4, 0, 0, 3, 1, 1);
+        Check.due("lot 5, 2 by 1", x.worst(), 5);
+        Check.due("just twice", x.sure(), 0);
+        x.defect(4, 0, 0, 3, 1, 1);
+        Check.due("lot 5, 3 by 1", x.sure(), 1);
+        for (int i = 0; i < 24; i++) {
+            x.defect(19, 0, 0, 3, 1, 1);
+        }
+        Check.due("lot 0, 24 by 16", x.worst(), 5);
+        Check.due("just twice that of lot 0", x.sure(), 0);
     }
 
     private static void count() {

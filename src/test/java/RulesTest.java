@@ -7,6 +7,7 @@ public final class RulesTest {
         forceByDayAndNumber();
         forceIsOfTheGreatestOfTheSpan();
         due();
+        dueSinceTheFirstLook();
         dueAfterAnotherRuleWasNoted();
         dueOfEachDefectIsItsOwn();
         overdue();
@@ -114,6 +115,18 @@ public final class RulesTest {
         Check.refused(x, "defect -1", -1, () -> x.due(-1));
         x.close(0, 3);
         Check.refused(x, "closed", -3, () -> x.due(0));
+    }
+
+    private static void dueSinceTheFirstLook() {
+        LineWalkers x = new LineWalkers();
+        x.rule(0, 5, 0, 0, 7);
+        x.days(4);
+        x.defect(0, 0, 0, 0, 10, 0);
+        x.days(2);
+        Check.due("since day 4", x.due(0), 11);
+        Check.due("not yet overdue", x.overdue(), 0);
+        x.rule(0, 5, 6, 0, 60);
+        Check.due("another rule since now", x.due(0), 66);
     }
 
     private static void dueAfterAnotherRuleWasNoted() {
@@ -272,6 +285,10 @@ public final class RulesTest {
         x.set(0, 99);
         x.days(5);
         Check.due("none stands", x.lost(), 184);
+        x.slow(0, 1);
+        x.slow(19, 1);
+        x.days(1);
+        Check.due("the first and the last mile", x.lost(), 382);
     }
 
     private static void set() {

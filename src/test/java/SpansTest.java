@@ -202,10 +202,15 @@ public final class SpansTest {
         Check.due("a look above", x.look(0, 70, 15), 0);
         Check.due("least", x.span(0, 0), 55);
         Check.due("greatest", x.span(0, 1), 85);
+        Check.due("a look that touches from above", x.look(0, 90, 5), 1);
+        Check.due("least", x.span(0, 0), 85);
+        Check.due("a look below", x.look(0, 70, 14), 0);
         Check.due("a look that is wider", x.look(0, 70, 50), 1);
-        Check.due("greatest stays", x.span(0, 1), 85);
-        Check.due("looks", x.count(3), 6);
-        Check.due("quarrels", x.count(4), 2);
+        Check.due("greatest stays", x.span(0, 1), 84);
+        Check.due("the greatest look of all", x.look(0, 999, 50), 0);
+        Check.due("greatest", x.span(0, 1), 1049);
+        Check.due("looks", x.count(3), 9);
+        Check.due("quarrels", x.count(4), 4);
         x.defect(0, 0, 0, 0, 5, 5);
         x.close(1, 2);
         Check.refused(x, "no defect", -1, () -> x.look(2, -1, 0));

@@ -204,6 +204,8 @@ public final class WalksTest {
         Check.refused(x, "a sum of second", -6, () -> x.doubles(19, 0, 1, 0));
         Check.refused(x, "a sum of both", -6, () -> x.doubles(19, 0, 0, 1));
         Check.refused(x, "a sum that wraps", -6, () -> x.doubles(19, Integer.MAX_VALUE, 0, 0));
+        Check.refused(x, "a sum that wraps", -6, () -> x.doubles(19, 0, Integer.MAX_VALUE, 0));
+        Check.refused(x, "a sum that wraps", -6, () -> x.doubles(19, 0, 0, Integer.MAX_VALUE));
         Check.due("nothing more", x.doubles(19, 0, 0, 0), 1);
     }
 
