@@ -3,10 +3,6 @@ import java.util.Random;
 
 /** Runs of 512 calls on the class and on the model beside it, from seeds that are always the same. */
 public final class ModelTest {
-    private static final String[] NAMES = {"day", "dayOf", "growth", "defect", "look", "span", "rule", "force", "due",
-        "overdue", "close", "slow", "lift", "lost", "set", "days", "train", "safe", "first", "walked", "risk", "walks",
-        "doubles", "eyes", "line", "join", "joined", "job", "gang", "plan", "gangOf", "rail", "heat", "lot", "worst",
-        "sure", "count"};
     /** How often a call is made, beside the others. */
     private static final int[] WEIGHTS = {12, 4, 3, 12, 16, 10, 10, 8, 12, 4, 4, 6, 8, 2, 5, 8, 4, 4, 3, 5, 4, 4,
         6, 4, 3, 4, 6, 3, 3, 4, 4, 6, 3, 4, 4, 4, 6};
@@ -37,9 +33,10 @@ public final class ModelTest {
             if (a.length > 0 && random.nextInt(odd) == 0) {
                 a[random.nextInt(a.length)] = ODD[random.nextInt(ODD.length)];
             }
+            Call call = new Call(method, a);
             int want = model.call(method, a);
-            int got = call(x, method, a);
-            Check.due("seed " + seed + ", call " + i + ": " + NAMES[method] + Arrays.toString(a), got, want);
+            int got = call.on(x);
+            Check.due("seed " + seed + ", call " + i + ": " + call, got, want);
             now = x.count(0);
             if (got != want) {
                 return;
@@ -114,54 +111,6 @@ public final class ModelTest {
             case 2: return new int[] {2, around(r, 0, 200)};
             case 3: return new int[] {3, around(r, -30, 50)};
             default: return new int[] {around(r, 0, 3), around(r, 0, 30)};
-        }
-    }
-
-    private static int call(LineWalkers x, int method, int[] a) {
-        switch (method) {
-            case 0: return x.day(a[0], a[1], a[2]);
-            case 1: return x.dayOf(a[0], a[1]);
-            case 2: return x.growth(a[0], a[1]);
-            case 3: return x.defect(a[0], a[1], a[2], a[3], a[4], a[5]);
-            case 4: return x.look(a[0], a[1], a[2]);
-            case 5: return x.span(a[0], a[1]);
-            case 6: return x.rule(a[0], a[1], a[2], a[3], a[4]);
-            case 7: return x.force(a[0]);
-            case 8: return x.due(a[0]);
-            case 9: return x.overdue();
-            case 10: return x.close(a[0], a[1]);
-            case 11: return x.slow(a[0], a[1]);
-            case 12: return x.lift(a[0]);
-            case 13: return x.lost();
-            case 14: return x.set(a[0], a[1]);
-            case 15: return x.days(a[0]);
-            case 16: return x.train(a[0], a[1]);
-            case 17: return x.safe(a[0], a[1], a[2]);
-            case 18: return x.first(a[0], a[1], a[2]);
-            default: return callMore(x, method, a);
-        }
-    }
-
-    private static int callMore(LineWalkers x, int method, int[] a) {
-        switch (method) {
-            case 19: return x.walked(a[0], a[1]);
-            case 20: return x.risk(a[0]);
-            case 21: return x.walks(a[0], a[1]);
-            case 22: return x.doubles(a[0], a[1], a[2], a[3]);
-            case 23: return x.eyes(a[0], a[1]);
-            case 24: return x.line(a[0], a[1], a[2]);
-            case 25: return x.join(a[0]);
-            case 26: return x.joined(a[0]);
-            case 27: return x.job(a[0], a[1], a[2]);
-            case 28: return x.gang(a[0], a[1]);
-            case 29: return x.plan(a[0]);
-            case 30: return x.gangOf(a[0]);
-            case 31: return x.rail(a[0], a[1], a[2]);
-            case 32: return x.heat(a[0]);
-            case 33: return x.lot(a[0], a[1]);
-            case 34: return x.worst();
-            case 35: return x.sure();
-            default: return x.count(a[0]);
         }
     }
 }
