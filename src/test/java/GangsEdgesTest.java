@@ -237,6 +237,21 @@ public final class GangsEdgesTest {
                 plan(0) = 4              # 1, 41, 51, 56
                 plan(1) = 6
                 """);
+        Edge.holds("in the order of DUES, told in any order", """
+                gang(1, 0) = 15
+                job(5, 10, 1) = 0
+                job(20, 50, 1) = 1
+                job(20, 30, 1) = 2
+                plan(0) = 0              # 5, 25, 45
+                job(5, 50, 1) = 3
+                plan(0) = 0              # 50 at the end
+                job(5, 30, 1) = 4
+                plan(0) = 5              # 5, 25, 30, 50, 55
+                plan(1) = 5
+                job(1, 0, 1) = 5
+                plan(0) = 6              # 1, 6, 26, 31, 51, 56
+                plan(1) = 9
+                """);
         Edge.holds("(of one by numbers)", """
                 gang(0, 0) = 15
                 job(9, 3, 1) = 0

@@ -6,6 +6,7 @@ public final class ModelTest {
     /** How often a call is made, beside the others. */
     private static final int[] WEIGHTS = {12, 4, 3, 12, 16, 10, 10, 8, 12, 4, 4, 6, 8, 2, 5, 8, 4, 4, 3, 5, 4, 4,
         6, 4, 3, 4, 6, 3, 3, 4, 4, 6, 3, 4, 4, 4, 6};
+    private static final int DAYS = Call.NAMES.indexOf("days");
     private static final int[] ODD = {-1, -2, 20, 40, 100, 1000, 1001, Integer.MIN_VALUE, Integer.MAX_VALUE};
 
     public static void main(String[] args) {
@@ -37,9 +38,11 @@ public final class ModelTest {
             int want = model.call(method, a);
             int got = call.on(x);
             Check.due("seed " + seed + ", call " + i + ": " + call, got, want);
-            now = x.count(0);
             if (got != want) {
                 return;
+            }
+            if (method == DAYS && got > 0) {
+                now = got;
             }
         }
     }

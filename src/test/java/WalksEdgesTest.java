@@ -598,7 +598,17 @@ public final class WalksEdgesTest {
                 28 x close(i, 2) = 1
                 join(0) = 8
                 8 x joined(i) = 28 on
-                12 x defect(1, 100, 0, 0, 0, 0) = -6
+                defect(1, 100, 0, 0, 0, 0) = -6
+                close(28, 2) = 1
+                join(0) = 8              # fewer than 12 are left
+                8 x joined(i) = 29 on
+                close(36, 2) = 1
+                close(37, 2) = 1
+                close(38, 2) = 1
+                close(39, 2) = 1
+                join(0) = 7
+                joined(6) = 35
+                joined(7) = -9
                 """);
     }
 
@@ -674,6 +684,16 @@ public final class WalksEdgesTest {
                 join(1) = 30
                 joined(0) = 1
                 joined(1) = 0
+                """);
+        Edge.holds("none of 8 LINES is JOINED", """
+                8 x line(0, 200, 0) = 0 on
+                join(0) = 0
+                join(1) = 0
+                8 x joined(i) = -9
+                12 x defect(0, 0, 0, 0, 0, 0) = 0 on
+                join(0) = 0              # all are 200 off
+                join(1) = 0
+                8 x joined(i) = -9
                 """);
         Edge.holds("none behind all", """
                 defect(0, 100, 0, 0, 0, 0) = 0

@@ -99,14 +99,13 @@ public final class WalksTest {
     }
 
     private static void firstByEveryMinute() {
-        LineWalkers x = new LineWalkers();
-        for (int i = 0; i < 24; i++) {
-            x.train(i * 57 % 1400, 1 + i % 9);
-        }
-        x.set(1, 10);
+        LineWalkers x = busyLine();
         for (int b = 0; b < 20; b++) {
             int want = -9;
             for (int minute = 1439; minute >= 0; minute--) {
+                if (minute % 200 == 0) {
+                    x = busyLine();
+                }
                 boolean ends = minute + (b - b / 2 + 1) * 10 - 1 <= 1439;
                 if (ends && x.safe(b / 2, b, minute) == 1) {
                     want = minute;
@@ -114,6 +113,16 @@ public final class WalksTest {
                 Check.due("first(" + b / 2 + ", " + b + ", " + minute + ")", x.first(b / 2, b, minute), want);
             }
         }
+    }
+
+    /** Made anew now and then: an object is used for at most 512 calls. */
+    private static LineWalkers busyLine() {
+        LineWalkers x = new LineWalkers();
+        for (int i = 0; i < 24; i++) {
+            x.train(i * 57 % 1400, 1 + i % 9);
+        }
+        x.set(1, 10);
+        return x;
     }
 
     private static void walked() {
