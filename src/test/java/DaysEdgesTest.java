@@ -343,7 +343,8 @@ public final class DaysEdgesTest {
                 118 x look(0, 1, 1) = 1
                 count(3) = 119
                 look(0, 1, 1) = 1
-                look(0, 1, 1) = -6
+                rule(0, 0, 0, 0, 4) = 0
+                look(0, 1, 1) = -6       # the RULE is not noted either
                 look(0, 900, 1) = -6
                 defect(0, 0, 0, 3, 1, 1) = -6
                 look(0, -1, 1) = -4

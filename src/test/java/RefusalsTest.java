@@ -20,7 +20,8 @@ public final class RefusalsTest {
             "look(0, 44, 3)", "look(0, 90, 3)", "close(1, 2)", "slow(3, 4)", "slow(4, 30)", "walked(2, 6)",
             "train(600, 2)", "train(100, 9)", "doubles(3, 4, 3, 5)", "doubles(0, 99, 99, 99)", "days(1)",
             "defect(3, 120, 0, 1, 25, 5)", "line(3, 115, 0)", "line(3, 90, 0)", "line(19, 1700, 1)", "job(5, 5, 0)",
-            "job(3, 4, 1)", "job(4, 9, 2)", "gang(0, 14)", "set(0, 20)", "set(1, 25)", "set(2, 60)", "set(3, 15)");
+            "job(3, 4, 1)", "job(4, 9, 2)", "gang(0, 14)", "set(0, 20)", "set(1, 25)", "set(2, 60)", "set(3, 15)",
+            "rule(2, 10, 2, 0, 3)");
 
     public static void main(String[] args) {
         daysAndDefects();

@@ -266,6 +266,20 @@ public final class RulesEdgesTest {
                 days(1)
                 due(0) = 10
                 """);
+        Edge.holds("a refused LOOK notes nothing", """
+                defect(0, 0, 0, 0, 5, 0) = 0
+                rule(0, 0, 0, 0, 4) = 0
+                look(0, 1000, 0) = -6
+                look(0, -1, 0) = -4
+                days(2)
+                due(0) = 6               # since now
+                look(0, 0, 51) = -6
+                days(1)
+                due(0) = 7
+                look(0, 5, 0) = 1
+                days(1)
+                due(0) = 7               # noted on DAY 3
+                """);
         Edge.holds("LOOKS at another DEFECT are not between", """
                 rule(0, 10, 0, 0, 9) = 0
                 defect(0, 0, 0, 0, 20, 0) = 0
