@@ -20,7 +20,9 @@ public final class LanguageTest {
     public static void main(String[] args) throws IOException {
         face();
         classesInside();
-        text(Files.readString(Path.of("src/main/java/LineWalkers.java")));
+        String source = Files.readString(Path.of("src/main/java/LineWalkers.java"));
+        text(source);
+        shortMethods(source);
         callsMakeNothing();
         Check.end("LanguageTest");
     }
@@ -52,6 +54,7 @@ public final class LanguageTest {
             fields += isStatic ? 0 : 1;
             Check.that(f + " is final", !isStatic || Modifier.isFinal(f.getModifiers()));
             Check.that(f + " is hidden", c != LineWalkers.class || Modifier.isPrivate(f.getModifiers()));
+            Check.that(f + " is of a type that the rules leave", isAllowed(f.getType(), isStatic));
         }
         Check.that(c + " has some twenty fields", fields <= 20);
         for (Method m : c.getDeclaredMethods()) {
@@ -59,6 +62,16 @@ public final class LanguageTest {
             Check.that(m + " has a name of its own", ofFace || !face.contains(m.getName()));
             Check.that(m + " takes at most seven", m.getParameterCount() <= 7);
         }
+    }
+
+    /** Static ones are constants of few types (rule 5); others may also be of a class inside, or rows (rule 3). */
+    private static boolean isAllowed(Class<?> type, boolean isStatic) {
+        if (isStatic) {
+            return Set.of(int.class, long.class, boolean.class, char.class, String.class, int[].class, long[].class)
+                    .contains(type);
+        }
+        boolean isInside = type.getDeclaringClass() == LineWalkers.class;
+        return isInside || Set.of(int.class, int[].class, long[].class, boolean[].class).contains(type);
     }
 
     private static void classesInside() {
@@ -105,6 +118,20 @@ public final class LanguageTest {
         x.worst();
         x.sure();
         x.count(2);
+    }
+
+    /** Rule 11: a method begins with a line that ends in "{" and ends with a brace that stands as far in. */
+    private static void shortMethods(String source) {
+        Matcher method = Pattern.compile("(?ms)^( {4}| {8})(?:public|private|static|final|int|long|boolean|void|[A-Z])"
+                + "[^\n;=]*\\([^\n;=]*\\) \\{\n(.*?)^\\1\\}").matcher(source);
+        int methods = 0;
+        while (method.find()) {
+            methods++;
+            long lines = method.group(2).lines().count();
+            Check.that(lines + " lines: " + method.group().lines().findFirst().orElse(""), lines <= 60);
+        }
+        Check.that("methods found: " + methods, methods > 100);
+        Check.that("no loop without an end", !Pattern.compile("while \\(true\\)|for \\(;;").matcher(source).find());
     }
 
     private static void text(String source) {

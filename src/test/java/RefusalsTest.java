@@ -13,7 +13,7 @@ public final class RefusalsTest {
     private static final int FINE = 0;
 
     /** DAY 2; DEFECTS 0 to 5, of which 1 is CLOSED; LINES 0 to 2; JOBS 0 to 2; SLOW ORDERS of MILES 3 and 4. */
-    private static final List<Call> BEFORE = calls("day(0, 0, 50)", "day(1, 1, 20)", "day(5, 0, 7)", "growth(2, 33)",
+    static final List<Call> BEFORE = calls("day(0, 0, 50)", "day(1, 1, 20)", "day(5, 0, 7)", "growth(2, 33)",
             "rail(3, 1, 2)", "rail(19, 1, 5)", "rail(4, 0, -20)", "rule(0, 20, 0, 0, 4)", "rule(1, 30, 0, 2, 9)",
             "rule(3, 60, 3, 1, 2)", "defect(3, 100, 0, 0, 40, 5)", "defect(3, 130, 0, 1, 40, 5)",
             "defect(4, 700, 1, 2, 30, 9)", "days(1)", "defect(0, 0, 0, 3, 50, 9)", "defect(19, 1759, 1, 3, 999, 50)",

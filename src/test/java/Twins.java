@@ -1,5 +1,7 @@
 import java.util.ArrayList;
 import java.util.List;
+import java.util.Map;
+import java.util.TreeMap;
 
 /**
  * "nothing changes but how many there were": an object that had the refused call and one that had not
@@ -15,21 +17,40 @@ final class Twins {
     }
 
     static void compare(String where, List<Call> before, Call refused) {
+        alike(where + ": behind " + refused, with(before, refused), before);
+    }
+
+    static void alike(String where, List<Call> one, List<Call> other) {
+        for (String difference : differences(where, one, other).values()) {
+            Check.that(difference, false);
+        }
+        Check.that(where, true);
+    }
+
+    /** By the names of the questions to which the two objects don't answer alike, the first such question of each. */
+    static Map<String, String> differences(String where, List<Call> one, List<Call> other) {
+        Map<String, String> found = new TreeMap<>();
         for (List<Call> group : QUESTIONS) {
-            Check.that(where + ": no more than 512 calls", before.size() + 1 + group.size() <= MOST_CALLS);
-            LineWalkers with = after(before);
-            refused.on(with);
-            LineWalkers without = after(before);
+            int calls = Math.max(one.size(), other.size()) + group.size();
+            Check.that(where + ": no more than 512 calls", calls <= MOST_CALLS);
+            LineWalkers x = after(one);
+            LineWalkers y = after(other);
             for (Call question : group) {
-                int got = question.on(with);
-                int want = question.on(without);
+                int got = question.on(x);
+                int want = question.on(y);
                 if (got != want) {
-                    Check.due(where + ": behind " + refused + ", refused, " + question, got, want);
-                    return;
+                    found.putIfAbsent(Call.NAMES.get(question.method()),
+                            where + ", " + question + " answers " + got + ", not " + want);
                 }
             }
         }
-        Check.that(where, true);
+        return found;
+    }
+
+    static List<Call> with(List<Call> before, Call... more) {
+        List<Call> all = new ArrayList<>(before);
+        all.addAll(List.of(more));
+        return all;
     }
 
     static LineWalkers after(List<Call> calls) {
